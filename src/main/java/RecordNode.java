@@ -151,7 +151,8 @@ public final class RecordNode {
         if (!isSyntax(from) || !isSyntax(to)) {
             throw new IllegalArgumentException();
         }
-        if (reader.read(draft, from) != 0 || !writeCanonical(to) || canonical.count() > MOST_DRAFT) {
+        boolean isWritten = reader.read(draft, from) == 0 && reader.tree().writeAll(to, canonical);
+        if (!isWritten || canonical.count() > MOST_DRAFT) {
             throw new IllegalStateException();
         }
         draft.become(canonical);
@@ -276,11 +277,6 @@ public final class RecordNode {
             return TEXT;
         }
         return tag <= HIGHEST_TAG ? SEQUENCE : ITEM_KIND;
-    }
-
-    private boolean writeCanonical(int syntax) {
-        canonical.reset();
-        return reader.tree().writeAll(syntax, canonical);
     }
 
     private void begin(int newPhase) {
@@ -453,9 +449,7 @@ public final class RecordNode {
     }
 
     private void reply(int status, boolean setFollows) {
-        body.reset();
-        body.append(contexts.id(message.contextIndex()));
-        body.append(COMMAND_FLAG | LAST_FLAG);
+        startData(COMMAND_FLAG | LAST_FLAG);
         Tree.writeNumber(1, message.kind() + ANSWER_KIND, IMPLICIT, body);
         Tree.writeNumber(2, message.number(), IMPLICIT, body);
         Tree.writeNumber(3, setFollows ? 1 : 0, IMPLICIT, body);
@@ -463,12 +457,18 @@ public final class RecordNode {
         put(DATA_PIECE);
     }
 
+    private void startData(int flags) {
+        body.reset();
+        body.append(contexts.id(message.contextIndex()));
+        body.append(flags);
+    }
+
     /** Keeps the set that was read as a record, if it can: the status. */
     private int store() {
-        if (!writeCanonical(EXPLICIT) || canonical.count() > MOST_RECORD) {
+        Tree tree = reader.tree();
+        if (!tree.writeAll(EXPLICIT, canonical) || canonical.count() > MOST_RECORD) {
             return BAD_SET;
         }
-        Tree tree = reader.tree();
         int node = tree.find(0, NAME_TAG);
         if (node == NONE || tree.textLength(node) == 0) {
             return NAMELESS;
@@ -481,28 +481,22 @@ public final class RecordNode {
     /** The line is no longer READY when an answer did not fit: then nothing more is written. */
     private void find() {
         Tree pattern = reader.tree();
+        Tree candidate = recordReader.tree();
+        int syntax = contexts.result(message.contextIndex());
         for (int k = 0; k < records.count() && phase == READY; k++) {
             recordReader.read(records.bytes(k), EXPLICIT);
-            Tree candidate = recordReader.tree();
             if (matcher.matches(pattern, 0, candidate, 0, 0)) {
                 reply(FOUND, true);
                 if (phase == READY) {
-                    replySet(candidate, pattern);
+                    startData(LAST_FLAG);
+                    candidate.writeChosen(pattern, syntax, body);
+                    put(DATA_PIECE);
                 }
             }
         }
         if (phase == READY) {
             reply(DONE, false);
         }
-    }
-
-    private void replySet(Tree candidate, Tree pattern) {
-        int context = message.contextIndex();
-        body.reset();
-        body.append(contexts.id(context));
-        body.append(LAST_FLAG);
-        candidate.writeChosen(pattern, contexts.result(context), body);
-        put(DATA_PIECE);
     }
 
     /** A row of bytes (0 .. 255) that grows up to its room. */
@@ -636,15 +630,11 @@ public final class RecordNode {
             return node;
         }
 
-        void addNumber(int tag, int value) {
-            add(tag, value, numberLength(value));
+        int characterCount() {
+            return characterCount;
         }
 
-        void addText(int tag, int length) {
-            add(tag, characterCount, length);
-        }
-
-        /** The characters of a text come behind its node. */
+        /** The characters of a text are added behind its node. */
         void addCharacter(int code) {
             if (characterCount < MOST_PART) {
                 characters[characterCount] = code;
@@ -696,8 +686,9 @@ public final class RecordNode {
             return NONE;
         }
 
-        /** Appends the canonical bytes of the set; false when it has none. */
+        /** The target becomes the canonical bytes of the set; false when it has none. */
         boolean writeAll(int syntax, Bytes target) {
+            target.reset();
             boolean fits = true;
             for (int node = 1; node < count && fits; node++) {
                 fits = writeNode(node, syntax, target);
@@ -769,7 +760,7 @@ public final class RecordNode {
             }
         }
 
-        private static int numberLength(int value) {
+        static int numberLength(int value) {
             for (int length = 1; length < 4; length++) {
                 int limit = 1 << (8 * length - 1);
                 if (value >= -limit && value < limit) {
@@ -980,7 +971,8 @@ public final class RecordNode {
                 value |= source.get(position + i) << (8 * i);
             }
             int unused = 32 - 8 * length;
-            tree.addNumber(tag, value << unused >> unused);
+            int number = value << unused >> unused;
+            tree.add(tag, number, Tree.numberLength(number));
             position += length;
         }
 
@@ -993,7 +985,7 @@ public final class RecordNode {
                 fail(VALUE_FAULT, position);
                 return;
             }
-            tree.addText(tag, kept);
+            tree.add(tag, tree.characterCount(), kept);
             for (int i = 0; i < kept; i++) {
                 int code = source.get(position + i);
                 if (code < BLANK || code > LAST_CODE) {
@@ -1017,7 +1009,7 @@ public final class RecordNode {
             reach = new boolean[MOST_CHARACTERS + 1];
         }
 
-        boolean matches(Tree pattern, int set, Tree candidate, int candidateSet, int depth) {
+        private boolean matches(Tree pattern, int set, Tree candidate, int candidateSet, int depth) {
             int node = set + 1;
             for (int i = 0; i < MOST_ELEMENTS && node < pattern.behind(set); i++) {
                 int other = candidate.find(candidateSet, pattern.tag(node));
