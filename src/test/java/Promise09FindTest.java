@@ -13,6 +13,8 @@ public final class Promise09FindTest {
         texts();
         sequences();
         bothSyntaxes();
+        lastOfAllCount();
+        largestPattern();
         Kit.end();
     }
 
@@ -159,5 +161,53 @@ public final class Promise09FindTest {
         int[] pattern = Promise09MessageTest.tooLong();
         Kit.feed(x, Kit.join(Kit.command(7, 3, 6, 1), Kit.set(7, pattern)));
         Kit.due("a set without canonical explicit bytes has no fault", Kit.takeAll(x), Kit.answer(7, 3, 6, 0, 0));
+    }
+
+    /** The tenth element and the fourth item are looked at like the others. */
+    private static void lastOfAllCount() {
+        int[] record = new int[0];
+        int[] pattern = new int[0];
+        for (int tag = 80; tag < 89; tag++) {
+            record = Kit.join(record, Kit.text(tag, "x"));
+            pattern = Kit.join(pattern, Kit.text(tag, ""));
+        }
+        int[] four = Kit.sequence(160, Kit.number(1, 1), Kit.number(1, 2), Kit.number(1, 3), Kit.number(1, 4));
+        RecordNode x = Kit.ready(1);
+        Kit.dueStore("ten elements", x, 0, Kit.join(record, four));
+        Kit.due("the tenth element", ask(x, Kit.sequence(160)), Kit.join(found(four), end()));
+        Kit.due("the fourth item", ask(x, Kit.sequence(160, Kit.number(1, 4))), Kit.join(found(four), end()));
+        Kit.due("none of four", ask(x, Kit.sequence(160, Kit.number(1, 5))), end());
+        Kit.due("ten of ten", ask(x, Kit.join(pattern, Kit.sequence(160, Kit.number(1, 4)))),
+                Kit.join(found(Kit.join(record, four)), end()));
+        Kit.due("nine of ten", ask(x, Kit.join(pattern, Kit.sequence(160, Kit.number(1, 5)))), end());
+    }
+
+    private static int[] emptyTexts(int n, boolean explicit) {
+        int[] row = new int[0];
+        for (int i = 0; i < n; i++) {
+            row = Kit.join(row, explicit ? Kit.text(80 + i, "") : Kit.bytes(80 + i, 0));
+        }
+        return row;
+    }
+
+    /** 200 implicit bytes, each two of them an element or an item; the last one decides. */
+    private static void largestPattern() {
+        int[] item = Kit.join(Kit.bytes(254, 20), emptyTexts(10, false));
+        int[] four = Kit.join(item, item, item, item);
+        int[] pattern = Kit.join(Kit.bytes(160, 88), four, Kit.bytes(161, 88), four, Kit.bytes(162, 18, 254, 16),
+                emptyTexts(8, false));
+        Kit.due("made for 200", pattern.length, 200);
+        int[] ten = emptyTexts(10, true);
+        RecordNode x = Kit.ready(2);
+        for (int n = 7; n <= 8; n++) {
+            Kit.dueStore("a record for it", x, 0, Kit.join(Kit.text(80, "n" + n), Kit.sequence(160, ten),
+                    Kit.sequence(161, ten), Kit.sequence(162, emptyTexts(n, true))));
+        }
+        Kit.feed(x, Kit.join(Kit.command(7, 3, 6, 1), Kit.data(7, 0, java.util.Arrays.copyOf(pattern, 100)),
+                Kit.data(7, 2, java.util.Arrays.copyOfRange(pattern, 100, 200))));
+        int[] found = Kit.join(Kit.bytes(160, 22), item, Kit.bytes(161, 22), item, Kit.bytes(162, 18, 254, 16),
+                emptyTexts(8, false));
+        Kit.due("only the second record", Kit.takeAll(x), Kit.join(Kit.answer(7, 3, 6, 1, 1), Kit.set(7, found),
+                Kit.answer(7, 3, 6, 0, 0)));
     }
 }
