@@ -123,19 +123,19 @@ final class Kit {
         return value;
     }
 
-    static void type(RecordNode x, int... row) {
+    static void type(Node x, int... row) {
         for (int i = 0; i < row.length; i += 8) {
             int to = Math.min(row.length, i + 8);
             due("type", x.type(packed(row, i, to), to - i), true);
         }
     }
 
-    static void retype(RecordNode x, int... row) {
+    static void retype(Node x, int... row) {
         x.clear();
         type(x, row);
     }
 
-    static int[] draft(RecordNode x) {
+    static int[] draft(Node x) {
         int[] row = new int[x.at(-1)];
         for (int i = 0; i < row.length; i++) {
             row[i] = x.at(i);
@@ -143,15 +143,17 @@ final class Kit {
         return row;
     }
 
-    /** Stops when the line has closed: what comes behind would be answered false. */
-    static void feed(RecordNode x, int... row) {
-        for (int i = 0; i < row.length && x.state(0) != CLOSED; i += 8) {
+    /** The line may close by these bytes: then false is due for the parts behind. */
+    static void feed(Node x, int... row) {
+        boolean open = true;
+        for (int i = 0; i < row.length && open; i += 8) {
             int to = Math.min(row.length, i + 8);
-            due("feed", x.feed(packed(row, i, to), to - i), true);
+            open = x.feed(packed(row, i, to), to - i);
+            due("feed of the first part", open || i > 0, true);
         }
     }
 
-    static int[] takeAll(RecordNode x) {
+    static int[] takeAll(Node x) {
         int[] row = new int[x.state(2)];
         for (int i = 0; i < row.length; i++) {
             row[i] = x.take();
@@ -159,7 +161,7 @@ final class Kit {
         return row;
     }
 
-    static int[] record(RecordNode x, int k) {
+    static int[] record(Node x, int k) {
         int[] row = new int[x.record(k, -1)];
         for (int i = 0; i < row.length; i++) {
             row[i] = x.record(k, i);
@@ -167,26 +169,50 @@ final class Kit {
         return row;
     }
 
-    static RecordNode waiting(int room) {
-        RecordNode x = new RecordNode(room);
+    static Node waiting(int room) {
+        Node x = new Node(room);
         due("open", x.open(), true);
         return x;
     }
 
-    static RecordNode ready(int room) {
-        RecordNode x = waiting(room);
+    static Node ready(int room) {
+        Node x = waiting(room);
         feed(x, usualRequest());
         takeAll(x);
         due("state of the association", x.state(0), READY);
         return x;
     }
 
-    static void store(RecordNode x, int... bytes) {
+    static void store(Node x, int... bytes) {
         feed(x, join(command(3, 2, 9, 1), set(3, bytes)));
     }
 
-    static void dueStore(String what, RecordNode x, int status, int... bytes) {
+    static void dueStore(String what, Node x, int status, int... bytes) {
         store(x, bytes);
         due(what, takeAll(x), answer(3, 2, 9, 0, status));
+    }
+
+    /** An ECHO whose answer has 15 bytes and those of its message's number, 1 to 4. */
+    static int[] echo(int numberBytes) {
+        int[] number = many(numberBytes, 0);
+        number[numberBytes - 1] = 1;
+        return data(1, 3, join(bytes(1, 1, 1, 2, numberBytes), number, bytes(3, 1, 0)));
+    }
+
+    static int[] echoAnswer(int numberBytes) {
+        int[] number = many(numberBytes, 0);
+        number[numberBytes - 1] = 1;
+        return data(1, 3, join(bytes(1, 1, 17, 2, numberBytes), number, bytes(3, 1, 0, 4, 1, 0)));
+    }
+
+    /** Brings the output of a READY node to so many bytes by answers of 16 to 19 bytes each. */
+    static void fill(Node x, int target) {
+        int left = target - x.state(2);
+        for (int n = left / 16; n > 0; n--) {
+            int numberBytes = 1 + Math.min(3, left - 16 * n);
+            feed(x, echo(numberBytes));
+            left -= 15 + numberBytes;
+        }
+        due("bytes of the output", x.state(2), target);
     }
 }

@@ -12,7 +12,7 @@ public final class ModelTest {
     private static final String[] PATTERNS = {"", "*", "a*", "*b", "?", "??", "a?*", "*a*b*", "ab", "?b*", "***"};
 
     private final Random random;
-    private final RecordNode node;
+    private final Node node;
     private final Model model;
     private final List<Integer> waiting = new ArrayList<>();
     private final int[] ids;
@@ -27,7 +27,7 @@ public final class ModelTest {
     private ModelTest(long seed) {
         random = new Random(seed);
         int room = random.nextInt(10);
-        node = new RecordNode(room);
+        node = new Node(room);
         model = new Model(room);
         tame = random.nextInt(3) > 0;
         busy = tame && random.nextBoolean();
@@ -65,7 +65,11 @@ public final class ModelTest {
         Kit.end();
     }
 
+    /** Nothing behind the last call: what it would answer is free. */
     private void same(int run, String call, IntSupplier program, IntSupplier due) {
+        if (calls == CALLS) {
+            return;
+        }
         calls++;
         String got = outcome(program);
         String want = outcome(due);
@@ -185,9 +189,7 @@ public final class ModelTest {
             spoil(row, 2);
         }
         if (random.nextInt(4) > 0) {
-            calls++;
-            node.clear();
-            model.clear();
+            clear(run);
         }
         while (!row.isEmpty() && calls < CALLS) {
             int n = Math.min(8, row.size());
@@ -200,14 +202,22 @@ public final class ModelTest {
         same(run, "check 1", () -> node.check(1), () -> model.check(1));
     }
 
+    private void clear(int run) {
+        same(run, "clear", () -> {
+            node.clear();
+            return 0;
+        }, () -> {
+            model.clear();
+            return 0;
+        });
+    }
+
     private void send(int run) {
         if (!tame || random.nextInt(4) == 0 || waiting.isEmpty()) {
             same(run, "send", () -> node.send() ? 1 : 0, () -> model.send() ? 1 : 0);
             return;
         }
-        node.clear();
-        model.clear();
-        calls++;
+        clear(run);
         for (int sent = 0; sent < 120 && !waiting.isEmpty();) {
             int n = Math.min(Math.min(8, 120 - sent), waiting.size());
             long bytes = pack(waiting, n);

@@ -17,7 +17,7 @@ public final class Promise01NewObjectTest {
     }
 
     private static void isEmptyAndClosed() {
-        RecordNode x = new RecordNode(3);
+        Node x = new Node(3);
         for (int what = 0; what <= 7; what++) {
             Kit.due("state(" + what + ") of a new object", x.state(what), 0);
         }
@@ -26,7 +26,7 @@ public final class Promise01NewObjectTest {
     }
 
     private static void keepsAsManyAs(int want, int room) {
-        RecordNode x = Kit.ready(room);
+        Node x = Kit.ready(room);
         for (int k = 0; k < want; k++) {
             Kit.dueStore("record " + k + " in room " + room, x, 0, Kit.text(80, "r" + k));
         }
@@ -35,10 +35,10 @@ public final class Promise01NewObjectTest {
     }
 
     private static void objectsShareNothing() {
-        RecordNode x = Kit.ready(1);
+        Node x = Kit.ready(1);
         Kit.dueStore("store", x, 0, Kit.text(80, "a"));
         Kit.type(x, 1, 2, 3);
-        RecordNode y = new RecordNode(1);
+        Node y = new Node(1);
         Kit.due("records of another object", y.state(6), 0);
         Kit.due("draft of another object", y.at(-1), 0);
         Kit.due("line of another object", y.state(0), Kit.CLOSED);

@@ -8,7 +8,7 @@ public final class Promise02TypeTest {
     }
 
     private static void lowestBytesHighestFirst() {
-        RecordNode x = new RecordNode(1);
+        Node x = new Node(1);
         Kit.due("type of three", x.type(0x1122334455667788L, 3), true);
         Kit.due("three bytes", Kit.draft(x), 0x66, 0x77, 0x88);
         Kit.due("type of eight", x.type(-2L, 8), true);
@@ -18,7 +18,7 @@ public final class Promise02TypeTest {
     }
 
     private static void wrongCounts() {
-        RecordNode x = new RecordNode(1);
+        Node x = new Node(1);
         int[] wrong = {0, 9, -1, Integer.MIN_VALUE, Integer.MAX_VALUE};
         for (int n : wrong) {
             Kit.due("type with n = " + n, x.type(1, n), false);
@@ -27,7 +27,7 @@ public final class Promise02TypeTest {
     }
 
     private static void roomOf120() {
-        RecordNode x = new RecordNode(1);
+        Node x = new Node(1);
         Kit.type(x, Kit.many(118, 7));
         Kit.due("three more", x.type(0x010203L, 3), false);
         Kit.due("nothing of them", x.at(-1), 118);

@@ -1,7 +1,7 @@
 /** Promise 3: clear. */
 public final class Promise03ClearTest {
     public static void main(String[] args) {
-        RecordNode x = Kit.ready(1);
+        Node x = Kit.ready(1);
         x.clear();
         Kit.due("an empty draft stays empty", x.at(-1), 0);
         Kit.type(x, Kit.many(120, 9));

@@ -9,8 +9,6 @@ public final class Promise04CheckTest {
     private static final int MANY = 7;
     private static final int DEEP = 8;
 
-    private static final RecordNode NODE = new RecordNode(1);
-
     public static void main(String[] args) {
         syntaxes();
         goodSets();
@@ -27,20 +25,23 @@ public final class Promise04CheckTest {
     }
 
     private static void good(int syntax, int... bytes) {
-        Kit.retype(NODE, bytes);
-        Kit.due("check of " + java.util.Arrays.toString(bytes), NODE.check(syntax), 0);
-        Kit.due("the draft after check", Kit.draft(NODE), bytes);
+        Node x = new Node(1);
+        Kit.type(x, bytes);
+        Kit.due("check of " + java.util.Arrays.toString(bytes), x.check(syntax), 0);
+        Kit.due("the draft after check", Kit.draft(x), bytes);
     }
 
     private static void bad(int syntax, int fault, int place, int... bytes) {
-        Kit.retype(NODE, bytes);
-        Kit.due("check of " + java.util.Arrays.toString(bytes), NODE.check(syntax), fault + 16 * place);
+        Node x = new Node(1);
+        Kit.type(x, bytes);
+        Kit.due("check of " + java.util.Arrays.toString(bytes), x.check(syntax), fault + 16 * place);
     }
 
     private static void syntaxes() {
         int[] wrong = {-1, 2, 3, Integer.MAX_VALUE, Integer.MIN_VALUE};
+        Node x = new Node(1);
         for (int syntax : wrong) {
-            Kit.dueThrows("check(" + syntax + ")", IllegalArgumentException.class, () -> NODE.check(syntax));
+            Kit.dueThrows("check(" + syntax + ")", IllegalArgumentException.class, () -> x.check(syntax));
         }
     }
 

@@ -1,7 +1,5 @@
 /** Promise 5: convert. */
 public final class Promise05ConvertTest {
-    private static final RecordNode NODE = new RecordNode(1);
-
     public static void main(String[] args) {
         numbersShrink();
         textsStay();
@@ -12,10 +10,11 @@ public final class Promise05ConvertTest {
     }
 
     private static void converts(int from, int to, int[] bytes, int... want) {
-        Kit.retype(NODE, bytes);
-        Kit.due("convert(" + from + ", " + to + ")", NODE.convert(from, to), want.length);
-        Kit.due("canonical bytes", Kit.draft(NODE), want);
-        Kit.due("they are a set", NODE.check(to), 0);
+        Node x = new Node(1);
+        Kit.type(x, bytes);
+        Kit.due("convert(" + from + ", " + to + ")", x.convert(from, to), want.length);
+        Kit.due("canonical bytes", Kit.draft(x), want);
+        Kit.due("they are a set", x.check(to), 0);
     }
 
     private static void numbersShrink() {
@@ -56,28 +55,30 @@ public final class Promise05ConvertTest {
     }
 
     private static void wrongArguments() {
-        Kit.retype(NODE, 0);
+        Node x = new Node(1);
+        Kit.type(x, 0);
         int[][] wrong = {{2, 0}, {0, 2}, {-1, 0}, {0, -1}, {2, 2}};
         for (int[] pair : wrong) {
             Kit.dueThrows("convert(" + pair[0] + ", " + pair[1] + ") of a faulty draft", IllegalArgumentException.class,
-                    () -> NODE.convert(pair[0], pair[1]));
+                    () -> x.convert(pair[0], pair[1]));
         }
-        Kit.due("the draft afterwards", Kit.draft(NODE), 0);
+        Kit.due("the draft afterwards", Kit.draft(x), 0);
     }
 
     private static void faultsAndSizes() {
-        Kit.retype(NODE, 1, 2, 3, 0, 1);
-        Kit.dueThrows("convert of a fault", IllegalStateException.class, () -> NODE.convert(1, 0));
-        Kit.due("the draft afterwards", Kit.draft(NODE), 1, 2, 3, 0, 1);
+        Node x = new Node(1);
+        Kit.retype(x, 1, 2, 3, 0, 1);
+        Kit.dueThrows("convert of a fault", IllegalStateException.class, () -> x.convert(1, 0));
+        Kit.due("the draft afterwards", Kit.draft(x), 1, 2, 3, 0, 1);
         int[] row = wide(10);
-        Kit.retype(NODE, row);
-        Kit.due("convert to 120 bytes", NODE.convert(1, 0), 120);
-        Kit.due("back again", NODE.convert(0, 1), row.length);
+        Kit.retype(x, row);
+        Kit.due("convert to 120 bytes", x.convert(1, 0), 120);
+        Kit.due("back again", x.convert(0, 1), row.length);
         row = wide(12);
-        Kit.retype(NODE, row);
-        Kit.dueThrows("convert to 122 bytes", IllegalStateException.class, () -> NODE.convert(1, 0));
-        Kit.due("the draft afterwards", Kit.draft(NODE), row);
-        Kit.due("convert to the same syntax", NODE.convert(1, 1), row.length);
+        Kit.retype(x, row);
+        Kit.dueThrows("convert to 122 bytes", IllegalStateException.class, () -> x.convert(1, 0));
+        Kit.due("the draft afterwards", Kit.draft(x), row);
+        Kit.due("convert to the same syntax", x.convert(1, 1), row.length);
     }
 
     /** Ten texts: 110 + n bytes in the explicit syntax, 100 + n in the implicit one. */

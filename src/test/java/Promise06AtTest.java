@@ -3,7 +3,7 @@ import java.util.NoSuchElementException;
 /** Promise 6: at. */
 public final class Promise06AtTest {
     public static void main(String[] args) {
-        RecordNode x = new RecordNode(1);
+        Node x = new Node(1);
         Kit.due("how many in an empty draft", x.at(-1), 0);
         Kit.dueThrows("at(0) of an empty draft", NoSuchElementException.class, () -> x.at(0));
         Kit.type(x, 0, 127, 128, 255);

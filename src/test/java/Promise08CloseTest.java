@@ -1,7 +1,7 @@
 /** Promise 8: close. */
 public final class Promise08CloseTest {
     public static void main(String[] args) {
-        RecordNode x = new RecordNode(1);
+        Node x = new Node(1);
         Kit.due("close of a closed line", x.close(), false);
         x.open();
         Kit.due("close in WAITING", x.close(), true);

@@ -19,7 +19,7 @@ public final class Promise09FeedTest {
     }
 
     private static void wrongCounts() {
-        RecordNode x = new RecordNode(1);
+        Node x = new Node(1);
         int[] wrong = {0, 9, -1, Integer.MIN_VALUE, Integer.MAX_VALUE};
         for (int n : wrong) {
             Kit.dueThrows("feed with n = " + n + " on a closed line", IllegalArgumentException.class,
@@ -35,7 +35,7 @@ public final class Promise09FeedTest {
     }
 
     private static void bytesComeHighestFirst() {
-        RecordNode x = Kit.waiting(1);
+        Node x = Kit.waiting(1);
         Kit.due("feed", x.feed(0x0105010101010101L, 7), true);
         Kit.due("broken off by piece 5 in WAITING", x.state(0), Kit.ENDING);
         x = Kit.waiting(1);
@@ -49,7 +49,7 @@ public final class Promise09FeedTest {
     private static void piecesComeInAnyParts() {
         int[] all = Kit.join(Kit.usualRequest(), Kit.command(1, 1, 3, 0), Kit.command(1, 1, 4, 0), Kit.piece(5, 9));
         for (int size = 1; size <= 8; size++) {
-            RecordNode x = Kit.waiting(1);
+            Node x = Kit.waiting(1);
             for (int i = 0; i < all.length; i += size) {
                 Kit.feed(x, java.util.Arrays.copyOfRange(all, i, Math.min(all.length, i + size)));
             }
@@ -61,7 +61,7 @@ public final class Promise09FeedTest {
 
     private static void lengthsAbove200() {
         for (int type = 0; type <= 8; type++) {
-            RecordNode x = Kit.waiting(1);
+            Node x = Kit.waiting(1);
             Kit.feed(x, type, 201);
             Kit.due("201 in WAITING", x.state(0), Kit.ENDING);
             Kit.due("these two bytes are gone", x.state(3), 0);
@@ -77,7 +77,7 @@ public final class Promise09FeedTest {
             Kit.feed(x, 0);
             Kit.due("that one closes", x.state(0), Kit.CLOSED);
         }
-        RecordNode x = Kit.ready(1);
+        Node x = Kit.ready(1);
         Kit.feed(x, Kit.join(Kit.bytes(4, 200, 1, 1), Kit.many(197, 1)));
         Kit.due("200 is waited for", x.state(3), 201);
         Kit.due("READY", x.state(0), Kit.READY);
@@ -100,7 +100,7 @@ public final class Promise09FeedTest {
     }
 
     private static void accepts(int[] body, int... want) {
-        RecordNode x = Kit.waiting(1);
+        Node x = Kit.waiting(1);
         x.tick();
         Kit.feed(x, Kit.piece(1, body));
         Kit.due("READY", x.state(0), Kit.READY);
@@ -118,7 +118,7 @@ public final class Promise09FeedTest {
     }
 
     private static void refuses(int reason, int... body) {
-        RecordNode x = Kit.waiting(1);
+        Node x = Kit.waiting(1);
         x.tick();
         Kit.feed(x, Kit.piece(1, body));
         Kit.due("ENDING", x.state(0), Kit.ENDING);
@@ -146,7 +146,7 @@ public final class Promise09FeedTest {
     }
 
     private static void breaksOff(int... piece) {
-        RecordNode x = Kit.waiting(1);
+        Node x = Kit.waiting(1);
         x.tick();
         Kit.feed(x, piece);
         Kit.due("broken off by " + java.util.Arrays.toString(piece), x.state(0), Kit.ENDING);
@@ -160,7 +160,7 @@ public final class Promise09FeedTest {
             breaksOff(Kit.piece(type, 1, 1, 1, 1, 1));
         }
         for (int length : new int[] {0, 1, 200}) {
-            RecordNode x = Kit.waiting(1);
+            Node x = Kit.waiting(1);
             Kit.feed(x, Kit.piece(7, Kit.many(length, 3)));
             Kit.due("piece 7 in WAITING", x.state(0), Kit.CLOSED);
             Kit.due("nothing is written", x.state(2), 0);
@@ -169,7 +169,7 @@ public final class Promise09FeedTest {
 
     private static void releaseInReady() {
         for (int length : new int[] {0, 1, 200}) {
-            RecordNode x = Kit.ready(1);
+            Node x = Kit.ready(1);
             Kit.feed(x, Kit.piece(5, Kit.many(length, 1)));
             Kit.due("piece 5 in READY", x.state(0), Kit.ENDING);
             Kit.due("timer", x.state(1), 5);
@@ -183,7 +183,7 @@ public final class Promise09FeedTest {
 
     private static void otherPiecesInReady() {
         for (int type : new int[] {0, 1, 2, 3, 6, 8, 255}) {
-            RecordNode x = Kit.ready(1);
+            Node x = Kit.ready(1);
             Kit.feed(x, Kit.piece(type, 1, 1, 1, 1, 1));
             Kit.due("piece " + type + " in READY", x.state(0), Kit.ENDING);
             Kit.due("what is written", Kit.takeAll(x), 7, 0);
@@ -191,7 +191,7 @@ public final class Promise09FeedTest {
     }
 
     private static void piecesInEnding() {
-        RecordNode x = Kit.ready(1);
+        Node x = Kit.ready(1);
         Kit.feed(x, Kit.piece(5));
         Kit.takeAll(x);
         x.tick();
@@ -212,7 +212,7 @@ public final class Promise09FeedTest {
     }
 
     private static void whatComesBehindIsLost() {
-        RecordNode x = Kit.waiting(1);
+        Node x = Kit.waiting(1);
         Kit.due("a feed that closes", x.feed(0x0700010501010101L, 8), true);
         Kit.due("closed", x.state(0), Kit.CLOSED);
         Kit.due("the rest is lost", x.state(3), 0);
@@ -222,8 +222,8 @@ public final class Promise09FeedTest {
     }
 
     /** READY, with 896 bytes of output in few calls: eight records that an empty set finds. */
-    private static RecordNode filledTo896() {
-        RecordNode x = Kit.ready(8);
+    private static Node filledTo896() {
+        Node x = Kit.ready(8);
         for (int k = 0; k < 8; k++) {
             Kit.store(x, Kit.text(80, "r" + k));
         }
@@ -237,8 +237,8 @@ public final class Promise09FeedTest {
         return x;
     }
 
-    private static RecordNode filledTo900AndClosed() {
-        RecordNode x = filledTo896();
+    private static Node filledTo900AndClosed() {
+        Node x = filledTo896();
         for (int i = 0; i < 2; i++) {
             x.close();
             x.open();
@@ -249,14 +249,14 @@ public final class Promise09FeedTest {
         return x;
     }
 
-    private static void takeSome(RecordNode x, int n) {
+    private static void takeSome(Node x, int n) {
         for (int i = 0; i < n; i++) {
             x.take();
         }
     }
 
     private static void answersThatDoNotFit() {
-        RecordNode x = filledTo896();
+        Node x = filledTo896();
         takeSome(x, 11);
         Kit.feed(x, Kit.command(1, 1, 1, 0));
         Kit.due("an answer of 16 bytes where 15 have room", x.state(2), 885);
@@ -291,7 +291,7 @@ public final class Promise09FeedTest {
     }
 
     private static void otherPiecesThatDoNotFit() {
-        RecordNode x = filledTo900AndClosed();
+        Node x = filledTo900AndClosed();
         x.take();
         x.open();
         Kit.feed(x, 9, 201, 1, 5);

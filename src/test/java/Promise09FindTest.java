@@ -12,14 +12,15 @@ public final class Promise09FindTest {
         numbers();
         texts();
         sequences();
+        sequencesInside();
         bothSyntaxes();
         lastOfAllCount();
         largestPattern();
         Kit.end();
     }
 
-    private static RecordNode two() {
-        RecordNode x = Kit.ready(3);
+    private static Node two() {
+        Node x = Kit.ready(3);
         Kit.dueStore("ann", x, 0, ANN);
         Kit.dueStore("bob", x, 0, BOB);
         return x;
@@ -33,13 +34,13 @@ public final class Promise09FindTest {
         return Kit.answer(5, 3, 6, 0, 0);
     }
 
-    private static int[] ask(RecordNode x, int... set) {
+    private static int[] ask(Node x, int... set) {
         Kit.feed(x, Kit.join(Kit.command(5, 3, 6, 1), Kit.set(5, set)));
         return Kit.takeAll(x);
     }
 
     private static void setsThatCannotBeRead() {
-        RecordNode x = two();
+        Node x = two();
         Kit.feed(x, Kit.command(5, 3, 6, 0));
         Kit.due("no set", Kit.takeAll(x), Kit.answer(5, 3, 6, 0, 3));
         Kit.due("a fault", ask(x, 80, 2, 1), Kit.answer(5, 3, 6, 0, 3));
@@ -50,7 +51,7 @@ public final class Promise09FindTest {
 
     private static void answersInOrder() {
         Kit.due("no records", ask(Kit.ready(1), Kit.text(80, "")), end());
-        RecordNode x = two();
+        Node x = two();
         Kit.due("an empty set", ask(x), Kit.join(found(), found(), end()));
         Kit.due("names", ask(x, Kit.text(80, "")),
                 Kit.join(found(Kit.text(80, "ann")), found(Kit.text(80, "bob")), end()));
@@ -60,7 +61,7 @@ public final class Promise09FindTest {
     }
 
     private static void elementsThatAreAsked() {
-        RecordNode x = two();
+        Node x = two();
         Kit.due("all of bob", ask(x, Kit.join(Kit.number(5, -7), Kit.text(80, ""), Kit.text(90, ""), Kit.sequence(160))),
                 Kit.join(found(BOB), end()));
         Kit.due("whole sequences", ask(x, Kit.join(Kit.text(80, "a*"), Kit.sequence(160, Kit.number(1, 2)))),
@@ -71,7 +72,7 @@ public final class Promise09FindTest {
     }
 
     private static void numbers() {
-        RecordNode x = two();
+        Node x = two();
         Kit.due("7", ask(x, Kit.number(5, 7)), Kit.join(found(Kit.number(5, 7)), end()));
         Kit.due("7 in more bytes", ask(x, 5, 1, 4, 7, 0, 0, 0), Kit.join(found(Kit.number(5, 7)), end()));
         Kit.due("-7", ask(x, 5, 1, 2, 249, 255), Kit.join(found(Kit.number(5, -7)), end()));
@@ -79,7 +80,7 @@ public final class Promise09FindTest {
     }
 
     private static void textMatches(String kept, String pattern, boolean want) {
-        RecordNode x = Kit.ready(1);
+        Node x = Kit.ready(1);
         int[] record = Kit.join(Kit.text(80, "n"), Kit.text(90, kept));
         Kit.dueStore(kept, x, 0, record);
         int[] answer = want ? Kit.join(found(Kit.text(90, kept)), end()) : end();
@@ -128,14 +129,20 @@ public final class Promise09FindTest {
         textMatches("aaaaaaaaaaaaaaaa", "****************", true);
     }
 
-    private static void sequences() {
-        int[] deep = Kit.sequence(160,
-                Kit.join(Kit.number(1, 1), Kit.sequence(170, Kit.text(80, "one"), Kit.text(80, "two"))),
-                Kit.join(Kit.number(1, 2), Kit.sequence(170, Kit.text(80, "three"))));
-        RecordNode x = Kit.ready(2);
-        Kit.dueStore("deep", x, 0, Kit.join(Kit.text(80, "n"), deep));
+    private static final int[] DEEP = Kit.sequence(160,
+            Kit.join(Kit.number(1, 1), Kit.sequence(170, Kit.text(80, "one"), Kit.text(80, "two"))),
+            Kit.join(Kit.number(1, 2), Kit.sequence(170, Kit.text(80, "three"))));
+
+    private static Node deepAndFlat() {
+        Node x = Kit.ready(2);
+        Kit.dueStore("deep", x, 0, Kit.join(Kit.text(80, "n"), DEEP));
         Kit.dueStore("flat", x, 0, Kit.join(Kit.text(80, "m"), Kit.sequence(160)));
-        int[] found = found(deep);
+        return x;
+    }
+
+    private static void sequences() {
+        Node x = deepAndFlat();
+        int[] found = found(DEEP);
         int[] foundEmpty = found(Kit.sequence(160));
         Kit.due("without items", ask(x, Kit.sequence(160)), Kit.join(found, foundEmpty, end()));
         Kit.due("an empty item", ask(x, Kit.sequence(160, new int[0])), Kit.join(found, end()));
@@ -144,6 +151,11 @@ public final class Promise09FindTest {
         Kit.due("only the first item is asked", ask(x, Kit.sequence(160, Kit.number(1, 1), Kit.number(1, 3))),
                 Kit.join(found, end()));
         Kit.due("not the second one", ask(x, Kit.sequence(160, Kit.number(1, 3), Kit.number(1, 1))), end());
+    }
+
+    private static void sequencesInside() {
+        Node x = deepAndFlat();
+        int[] found = found(DEEP);
         Kit.due("inside", ask(x, Kit.sequence(160, Kit.sequence(170, Kit.text(80, "t*")))), Kit.join(found, end()));
         Kit.due("inside one and the same item",
                 ask(x, Kit.sequence(160, Kit.join(Kit.number(1, 1), Kit.sequence(170, Kit.text(80, "three"))))), end());
@@ -153,7 +165,7 @@ public final class Promise09FindTest {
     }
 
     private static void bothSyntaxes() {
-        RecordNode x = two();
+        Node x = two();
         Kit.feed(x, Kit.join(Kit.command(7, 3, 6, 1), Kit.set(7, 5, 1, 7, 80, 0, 160, 255, 252)));
         Kit.due("an implicit answer", Kit.takeAll(x), Kit.join(Kit.answer(7, 3, 6, 1, 1),
                 Kit.set(7, 5, 1, 7, 80, 4, 'a', 'n', 'n', 32, 160, 14, 254, 7, 1, 1, 1, 80, 2, 'x', 32, 254, 3, 1, 1, 2),
@@ -172,7 +184,7 @@ public final class Promise09FindTest {
             pattern = Kit.join(pattern, Kit.text(tag, ""));
         }
         int[] four = Kit.sequence(160, Kit.number(1, 1), Kit.number(1, 2), Kit.number(1, 3), Kit.number(1, 4));
-        RecordNode x = Kit.ready(1);
+        Node x = Kit.ready(1);
         Kit.dueStore("ten elements", x, 0, Kit.join(record, four));
         Kit.due("the tenth element", ask(x, Kit.sequence(160)), Kit.join(found(four), end()));
         Kit.due("the fourth item", ask(x, Kit.sequence(160, Kit.number(1, 4))), Kit.join(found(four), end()));
@@ -198,7 +210,7 @@ public final class Promise09FindTest {
                 emptyTexts(8, false));
         Kit.due("made for 200", pattern.length, 200);
         int[] ten = emptyTexts(10, true);
-        RecordNode x = Kit.ready(2);
+        Node x = Kit.ready(2);
         for (int n = 7; n <= 8; n++) {
             Kit.dueStore("a record for it", x, 0, Kit.join(Kit.text(80, "n" + n), Kit.sequence(160, ten),
                     Kit.sequence(161, ten), Kit.sequence(162, emptyTexts(n, true))));

@@ -16,7 +16,7 @@ public final class Promise09MessageTest {
         Kit.end();
     }
 
-    private static void brokenOff(String what, RecordNode x) {
+    private static void brokenOff(String what, Node x) {
         Kit.due(what + ": ENDING", x.state(0), Kit.ENDING);
         Kit.due(what + ": what is written", Kit.takeAll(x), 7, 0);
         Kit.due(what + ": nothing wanted", x.state(4), 0);
@@ -24,7 +24,7 @@ public final class Promise09MessageTest {
     }
 
     private static void fragmentsMakeUpParts() {
-        RecordNode x = Kit.ready(1);
+        Node x = Kit.ready(1);
         Kit.feed(x, Kit.join(Kit.data(3, 1, 1, 1, 2, 2), Kit.data(3, 1, 2, 1)));
         Kit.due("bytes of the command", x.state(5), 6);
         Kit.feed(x, Kit.data(3, 3, 1, 3, 1, 1));
@@ -38,7 +38,7 @@ public final class Promise09MessageTest {
     }
 
     private static void emptyFragments() {
-        RecordNode x = Kit.ready(1);
+        Node x = Kit.ready(1);
         Kit.feed(x, Kit.data(1, 1));
         Kit.due("no bytes", x.state(5), 0);
         Kit.feed(x, Kit.data(3, 1));
@@ -70,7 +70,7 @@ public final class Promise09MessageTest {
         breaks("no bytes", Kit.piece(4));
         breaks("one byte", Kit.piece(4, 1));
         for (int result = 2; result <= 3; result++) {
-            RecordNode x = Kit.waiting(1);
+            Node x = Kit.waiting(1);
             Kit.feed(x, Kit.piece(1, 1, 1, 1, result == 2 ? 9 : 1, result == 2 ? 1 : 4));
             Kit.takeAll(x);
             Kit.due("result", x.context(1), result);
@@ -80,14 +80,14 @@ public final class Promise09MessageTest {
     }
 
     private static void breaks(String what, int[] input) {
-        RecordNode x = Kit.ready(1);
+        Node x = Kit.ready(1);
         Kit.feed(x, input);
         brokenOff(what, x);
         Kit.due(what + ": nothing is answered", x.state(7), 0);
     }
 
     private static void partsOf200Bytes() {
-        RecordNode x = Kit.ready(1);
+        Node x = Kit.ready(1);
         int[] front = {1, 1, 1, 2, 1, 1, 3, 1, 0};
         int[] rest = Kit.join(texts(80, 16, 16, 16, 16, 16, 16), Kit.bytes(160, 81, 254, 79, 1, 1, 1),
                 texts(80, 16, 16, 16, 16, 2));
@@ -138,7 +138,7 @@ public final class Promise09MessageTest {
     }
 
     private static void commandsThatAre() {
-        RecordNode x = Kit.ready(1);
+        Node x = Kit.ready(1);
         Kit.feed(x, Kit.data(1, 3, 1, 4, 1, 0, 0, 0, 2, 4, 255, 255, 255, 127, 3, 2, 0, 0, 4, 1, 9, 80, 2, 65, 66));
         Kit.due("other elements do not matter", Kit.takeAll(x),
                 Kit.data(1, 3, 1, 1, 17, 2, 4, 255, 255, 255, 127, 3, 1, 0, 4, 1, 0));
@@ -148,7 +148,7 @@ public final class Promise09MessageTest {
     }
 
     private static void wrongKind() {
-        RecordNode x = Kit.ready(1);
+        Node x = Kit.ready(1);
         Kit.feed(x, Kit.command(3, 1, 4, 0));
         Kit.due("ECHO for STORE", Kit.takeAll(x), Kit.answer(3, 1, 4, 0, 2));
         Kit.feed(x, Kit.command(1, 2, 4, 1));
@@ -165,7 +165,7 @@ public final class Promise09MessageTest {
     }
 
     private static void echo() {
-        RecordNode x = Kit.ready(1);
+        Node x = Kit.ready(1);
         Kit.feed(x, Kit.command(1, 1, 200, 0));
         Kit.due("ECHO", Kit.takeAll(x), Kit.answer(1, 1, 200, 0, 0));
         Kit.feed(x, Kit.command(1, 1, 1, 1));
@@ -176,7 +176,7 @@ public final class Promise09MessageTest {
     }
 
     private static void storeStatuses() {
-        RecordNode x = Kit.ready(2);
+        Node x = Kit.ready(2);
         Kit.feed(x, Kit.command(3, 2, 9, 0));
         Kit.due("no set", Kit.takeAll(x), Kit.answer(3, 2, 9, 0, 3));
         Kit.dueStore("a fault", x, 3, 80, 2, 1, 65);
@@ -197,7 +197,7 @@ public final class Promise09MessageTest {
     }
 
     private static void storeTakesThePlace() {
-        RecordNode x = Kit.ready(2);
+        Node x = Kit.ready(2);
         Kit.dueStore("a", x, 0, Kit.text(80, "a"));
         Kit.dueStore("b", x, 0, Kit.text(80, "b"));
         int[] again = Kit.join(Kit.bytes(5, 1, 3, 7, 0, 0), Kit.text(80, "a"), Kit.bytes(160, 3, 255, 254, 255, 253, 252));
@@ -226,7 +226,7 @@ public final class Promise09MessageTest {
     }
 
     private static void storeSizes() {
-        RecordNode x = Kit.ready(1);
+        Node x = Kit.ready(1);
         int[] largest = sized(2, 0, 1);
         storeInTwo(x, 0, largest);
         Kit.due("198 bytes are kept", Kit.record(x, 0), largest);
@@ -243,7 +243,7 @@ public final class Promise09MessageTest {
     }
 
     /** A set of 199 or 200 bytes does not fit into one piece. */
-    private static void storeInTwo(RecordNode x, int status, int... bytes) {
+    private static void storeInTwo(Node x, int status, int... bytes) {
         int half = bytes.length / 2;
         Kit.feed(x, Kit.join(Kit.command(3, 2, 9, 1), Kit.data(3, 0, java.util.Arrays.copyOf(bytes, half)),
                 Kit.data(3, 2, java.util.Arrays.copyOfRange(bytes, half, bytes.length))));
@@ -252,7 +252,7 @@ public final class Promise09MessageTest {
 
     /** Implicit bytes may be few enough and the explicit ones too many. */
     private static void storeOfImplicitSets() {
-        RecordNode x = Kit.waiting(2);
+        Node x = Kit.waiting(2);
         Kit.feed(x, Kit.piece(1, 1, 1, 3, 2, 2, 5, 3, 2));
         Kit.takeAll(x);
         int[] name = {80, 2, 65, 32};

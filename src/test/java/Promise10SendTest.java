@@ -1,7 +1,7 @@
 /** Promise 10: send. */
 public final class Promise10SendTest {
     public static void main(String[] args) {
-        RecordNode x = new RecordNode(1);
+        Node x = new Node(1);
         Kit.due("send of nothing on a closed line", x.send(), false);
         int[] both = Kit.join(Kit.usualRequest(), Kit.command(1, 1, 2, 0), Kit.bytes(4, 9));
         Kit.type(x, both);
@@ -30,7 +30,7 @@ public final class Promise10SendTest {
     }
 
     private static void sendsAFullDraft() {
-        RecordNode x = Kit.ready(1);
+        Node x = Kit.ready(1);
         Kit.type(x, Kit.join(Kit.bytes(4, 120, 1, 1), Kit.many(116, 5)));
         Kit.due("send of 120 bytes", x.send(), true);
         Kit.due("they wait", x.state(3), 120);

@@ -1,7 +1,7 @@
 /** Promise 11: tick, and the timer of WAITING and ENDING. */
 public final class Promise11TickTest {
     public static void main(String[] args) {
-        RecordNode x = new RecordNode(1);
+        Node x = new Node(1);
         Kit.due("tick on a closed line", x.tick(), 0);
         x.open();
         runsOut("WAITING", x);
@@ -22,7 +22,7 @@ public final class Promise11TickTest {
         Kit.end();
     }
 
-    private static void runsOut(String what, RecordNode x) {
+    private static void runsOut(String what, Node x) {
         Kit.due("timer at the beginning of " + what, x.state(1), 5);
         for (int want = 4; want >= 0; want--) {
             Kit.due("tick in " + what, x.tick(), want);
@@ -35,7 +35,7 @@ public final class Promise11TickTest {
 
     /** ENDING begins with a timer of 5 also when it comes right behind WAITING. */
     private static void beginsAgain() {
-        RecordNode x = Kit.waiting(1);
+        Node x = Kit.waiting(1);
         x.tick();
         x.tick();
         x.tick();

@@ -3,7 +3,7 @@ import java.util.NoSuchElementException;
 /** Promise 12: take. */
 public final class Promise12TakeTest {
     public static void main(String[] args) {
-        RecordNode x = new RecordNode(1);
+        Node x = new Node(1);
         Kit.dueThrows("take of nothing", NoSuchElementException.class, x::take);
         x.open();
         Kit.dueThrows("take of nothing in WAITING", NoSuchElementException.class, x::take);

@@ -2,7 +2,7 @@
 public final class Promise13StateTest {
     public static void main(String[] args) {
         noOther();
-        RecordNode x = new RecordNode(2);
+        Node x = new Node(2);
         states("new", x, 0, 0, 0, 0, 0, 0, 0, 0);
         x.open();
         states("WAITING", x, 1, 5, 0, 0, 0, 0, 0, 0);
@@ -29,13 +29,13 @@ public final class Promise13StateTest {
     }
 
     private static void noOther() {
-        RecordNode x = Kit.ready(1);
+        Node x = Kit.ready(1);
         for (int what : new int[] {-1, 8, 9, Integer.MAX_VALUE, Integer.MIN_VALUE}) {
             Kit.due("state(" + what + ")", x.state(what), RecordNode.NONE);
         }
     }
 
-    private static void states(String when, RecordNode x, int... want) {
+    private static void states(String when, Node x, int... want) {
         int[] got = new int[8];
         for (int what = 0; what < 8; what++) {
             got[what] = x.state(what);
@@ -44,7 +44,7 @@ public final class Promise13StateTest {
     }
 
     private static void endingForgetsTheMessage() {
-        RecordNode x = Kit.ready(1);
+        Node x = Kit.ready(1);
         Kit.feed(x, Kit.join(Kit.command(3, 2, 1, 1), Kit.data(3, 0, 80, 2), Kit.piece(5)));
         states("ending within a message", x, 3, 5, 2, 0, 0, 0, 0, 0);
     }

@@ -1,7 +1,7 @@
 /** Promise 14: context. */
 public final class Promise14ContextTest {
     public static void main(String[] args) {
-        RecordNode x = new RecordNode(1);
+        Node x = new Node(1);
         Kit.due("closed", x.context(1), RecordNode.NONE);
         x.open();
         Kit.due("WAITING", x.context(1), RecordNode.NONE);

@@ -3,7 +3,7 @@ import java.util.NoSuchElementException;
 /** Promise 15: record. */
 public final class Promise15RecordTest {
     public static void main(String[] args) {
-        RecordNode x = Kit.ready(3);
+        Node x = Kit.ready(3);
         none(x, 0, -1);
         none(x, 0, 0);
         int[] first = Kit.join(Kit.bytes(1, 1, 4, 200, 0, 0, 0), Kit.text(80, "b"), Kit.bytes(160, 3, 255, 254, 255),
@@ -30,7 +30,7 @@ public final class Promise15RecordTest {
         Kit.end();
     }
 
-    private static void none(RecordNode x, int k, int i) {
+    private static void none(Node x, int k, int i) {
         Kit.dueThrows("record(" + k + ", " + i + ")", NoSuchElementException.class, () -> x.record(k, i));
     }
 }
