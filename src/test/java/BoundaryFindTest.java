@@ -11,7 +11,9 @@ public final class BoundaryFindTest {
         theOrderOfRecords();
         elementsThatAreAsked();
         theLargestAnswer();
+        theLargestSet();
         eachElementMustFit();
+        eachOfTenElements();
         numbers();
         shortTexts();
         emptyTexts();
@@ -167,6 +169,53 @@ public final class BoundaryFindTest {
         matches("a tag between", false, Kit.join(Kit.text(90, ""), Kit.text(92, "")), Kit.text(91, ""));
         matches("a number that is not there", false, kept, Kit.number(1, 0));
         matches("a sequence that is not there", false, kept, Kit.sequence(160));
+    }
+
+    /** The tenth of ten is asked like the others. */
+    private static void eachOfTenElements() {
+        int[] kept = new int[0];
+        for (int tag = 90; tag < 99; tag++) {
+            kept = Kit.join(kept, Kit.text(tag, "x"));
+        }
+        for (int wrong = 90; wrong <= 99; wrong++) {
+            int[] asked = new int[0];
+            for (int tag = 90; tag < 99; tag++) {
+                asked = Kit.join(asked, Kit.text(tag, tag == wrong ? "y" : "x"));
+            }
+            matches("all but " + wrong, wrong == 99, kept, asked);
+            matches("a name and all but " + wrong, wrong == 99, kept, Kit.join(Kit.text(80, "n"), asked));
+            matches("one more", false, kept, Kit.join(asked, Kit.text(99, "")));
+            matches("one alone", wrong < 99, kept, Kit.text(wrong, "x"));
+        }
+    }
+
+    private static int[] emptyTexts(int syntax, int n) {
+        int[] row = new int[0];
+        for (int tag = 80; tag < 80 + n; tag++) {
+            row = Kit.join(row, syntax == Kit.EXPLICIT ? Kit.text(tag, "") : Kit.bytes(tag, 0));
+        }
+        return row;
+    }
+
+    /** 200 implicit bytes, each two of them an element or an item: its last element is asked too. */
+    private static void theLargestSet() {
+        int[] item = Kit.join(Kit.bytes(254, 20), emptyTexts(Kit.IMPLICIT, 10));
+        int[] four = Kit.join(item, item, item, item);
+        int[] asked = Kit.join(Kit.bytes(160, 88), four, Kit.bytes(161, 88), four, Kit.bytes(162, 18, 254, 16),
+                emptyTexts(Kit.IMPLICIT, 8));
+        Kit.due("made for 200", asked.length, 200);
+        for (int n = 6; n <= 9; n++) {
+            int[] ten = emptyTexts(Kit.EXPLICIT, 10);
+            Node x = with(Kit.join(Kit.text(80, "n"), Kit.sequence(160, ten), Kit.sequence(161, ten),
+                    Kit.sequence(162, emptyTexts(Kit.EXPLICIT, n))));
+            Kit.feed(x, Kit.join(Kit.command(7, 3, 6, 1), Kit.data(7, 0, java.util.Arrays.copyOf(asked, 198)),
+                    Kit.data(7, 2, java.util.Arrays.copyOfRange(asked, 198, 200))));
+            int[] found = Kit.join(Kit.bytes(160, 22), item, Kit.bytes(161, 22), item,
+                    Kit.bytes(162, 2 * n + 2, 254, 2 * n), emptyTexts(Kit.IMPLICIT, n));
+            int[] end = Kit.answer(7, 3, 6, 0, 0);
+            Kit.due("a record with " + n + " of the last eight", Kit.takeAll(x),
+                    n < 8 ? end : Kit.join(Kit.answer(7, 3, 6, 1, 1), Kit.set(7, found), end));
+        }
     }
 
     private static int[] four(int value) {

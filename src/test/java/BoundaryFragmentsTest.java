@@ -54,6 +54,10 @@ public final class BoundaryFragmentsTest {
     private static void idAndFlagsAreThere() {
         breaks("no bytes", Kit.piece(4));
         breaks("an ID alone", Kit.piece(4, 1));
+        breaks("an ID alone behind all of a command", Kit.join(Kit.data(3, 1, COMMAND), Kit.piece(4, 3)));
+        breaks("an ID alone for a set", Kit.join(Kit.data(3, 3, COMMAND), Kit.piece(4, 3)));
+        breaks("an ID alone behind all of a set", Kit.join(Kit.data(3, 3, COMMAND), Kit.data(3, 0, Kit.text(80, "a")),
+                Kit.piece(4, 3)));
         goesOn("an ID and flags", 0, 0, Kit.piece(4, 1, 1));
         goesOn("a byte more", 0, 1, Kit.piece(4, 1, 1, 1));
         goesOn("the most of a piece", 0, 198, Kit.piece(4, Kit.many(200, 1)));

@@ -3,6 +3,7 @@ import java.util.NoSuchElementException;
 /** open, close, state, context and record: what they answer at the ends of what there is. */
 public final class BoundaryStateTest {
     public static void main(String[] args) {
+        aNewObject();
         openOfALineThatIsNotClosed();
         closeOfAClosedLine();
         noOtherStates();
@@ -14,6 +15,23 @@ public final class BoundaryStateTest {
         recordsAndBytes();
         oneOrManyRecords();
         Kit.end();
+    }
+
+    /** "The line is closed, the output empty, the draft .. empty", and no record is there. */
+    private static void aNewObject() {
+        for (int room : new int[] {Integer.MIN_VALUE, 0, 1, 8, 9, Integer.MAX_VALUE}) {
+            Node x = new Node(room);
+            for (int what = 0; what <= 7; what++) {
+                Kit.due("state(" + what + ") of a new object", x.state(what), 0);
+            }
+            Kit.due("its draft", x.at(-1), 0);
+            Kit.due("an empty set", x.check(0), 0);
+            Kit.dueThrows("its output", NoSuchElementException.class, x::take);
+            none(x, 0, -1);
+            for (int id = -1; id <= 256; id++) {
+                Kit.due("its context " + id, x.context(id), RecordNode.NONE);
+            }
+        }
     }
 
     private static Node in(int state) {
