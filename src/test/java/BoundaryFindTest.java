@@ -12,6 +12,7 @@ public final class BoundaryFindTest {
         elementsThatAreAsked();
         theLargestAnswer();
         theLargestSet();
+        theLongestLengths();
         eachElementMustFit();
         eachOfTenElements();
         numbers();
@@ -215,6 +216,25 @@ public final class BoundaryFindTest {
             int[] end = Kit.answer(7, 3, 6, 0, 0);
             Kit.due("a record with " + n + " of the last eight", Kit.takeAll(x),
                     n < 8 ? end : Kit.join(Kit.answer(7, 3, 6, 1, 1), Kit.set(7, found), end));
+        }
+    }
+
+    /** "LENGTHS are 0 .. 240": as long as a set of 200 bytes lets them be, 198 and 196 inside. */
+    private static void theLongestLengths() {
+        for (int last = 10; last <= 12; last += 2) {
+            int[] set = new int[0];
+            for (int tag = 80; tag < 89; tag++) {
+                set = Kit.join(set, Kit.bytes(tag, 16), Kit.many(16, '?'));
+            }
+            set = Kit.join(set, Kit.bytes(170, 22 + last, 254, 20 + last, 80, 16), Kit.many(16, 'x'),
+                    Kit.bytes(81, last), Kit.many(last, 'x'));
+            int[] asked = Kit.join(Kit.bytes(160, set.length + 2, 254, set.length), set);
+            Kit.due("how many bytes", asked.length, 190 + last);
+            Node x = Kit.ready(1);
+            Kit.feed(x, Kit.join(Kit.command(7, 3, 6, 1), Kit.data(7, 0, java.util.Arrays.copyOf(asked, 100)),
+                    Kit.data(7, 2, java.util.Arrays.copyOfRange(asked, 100, asked.length))));
+            Kit.due("200 bytes and no fault, or too many", Kit.takeAll(x),
+                    last == 10 ? Kit.answer(7, 3, 6, 0, 0) : Kit.bytes(7, 0));
         }
     }
 

@@ -10,6 +10,7 @@ public final class BoundaryStoreTest {
         upTo198Bytes();
         upTo198BytesOfImplicitOnes();
         noCanonicalBytes();
+        theLongestLengths();
         aName();
         namesOf16Characters();
         theSameName();
@@ -151,6 +152,31 @@ public final class BoundaryStoreTest {
         Kit.takeAll(x);
         due("no canonical bytes", x, 3, Kit.join(Kit.bytes(80, 2, 65, 32), Promise09MessageTest.tooLong()));
         Kit.due("nothing is kept", x.state(6), 0);
+    }
+
+    /** "LENGTHS are 0 .. 240": as long as a record lets them be, 190 and 188 inside. */
+    private static void theLongestLengths() {
+        int[] item = new int[0];
+        for (int tag = 80; tag < 90; tag++) {
+            item = Kit.join(item, Kit.text(tag, "abcdefghijklmnop".substring(0, tag < 89 ? 16 : 14)));
+        }
+        int[] sequence = Kit.sequence(160, item);
+        Kit.due("the length of the sequence", sequence[2], 190);
+        int[] record = Kit.join(Kit.text(80, "a"), sequence);
+        Node x = Kit.ready(1);
+        due("long lengths", x, 0, record);
+        Kit.due("198 bytes", x.record(0, -1), 198);
+        Kit.due("the length of the sequence", x.record(0, 5 + 2), 190);
+        Kit.due("the length of the item", x.record(0, 5 + 4), 188);
+        Kit.feed(x, Kit.join(Kit.command(5, 3, 6, 1), Kit.set(5, 160, 3, 0)));
+        Kit.due("found again", Kit.takeAll(x), Kit.join(Kit.answer(5, 3, 6, 1, 1), Kit.set(5, sequence),
+                Kit.answer(5, 3, 6, 0, 0)));
+        int[] open = Kit.join(Kit.text(80, "a"), Kit.bytes(160, 3, 255, 254, 255), item, Kit.bytes(253, 252));
+        Node y = Kit.ready(1);
+        due("open lengths", y, 0, open);
+        Kit.due("as many bytes", y.record(0, -1), 198);
+        Kit.due("the length of the sequence", y.record(0, 5 + 2), 190);
+        Kit.due("the length of the item", y.record(0, 5 + 4), 188);
     }
 
     /** "4 if it has no TEXT 80 with at least one character, its NAME" */
