@@ -246,8 +246,7 @@ public final class RecordNode {
     }
 
     public int context(int id) {
-        int context = contexts.find(id);
-        return phase == READY && context != NONE ? contexts.result(context) : NONE;
+        return phase == READY ? contexts.result(contexts.find(id)) : NONE;
     }
 
     public int record(int k, int i) throws NoSuchElementException {
@@ -644,32 +643,35 @@ public final class RecordNode {
 
         /** All that is inside the node has been added. */
         void finish(int node) {
-            behind[node] = count;
+            if (node >= 0 && node < count) {
+                behind[node] = count;
+            }
         }
 
         int tag(int node) {
-            return tags[node];
+            return node >= 0 && node < count ? tags[node] : NONE;
         }
 
         int behind(int node) {
-            return behind[node];
+            return node >= 0 && node < count ? behind[node] : NONE;
         }
 
         int number(int node) {
-            return values[node];
+            return node >= 0 && node < count ? values[node] : 0;
         }
 
         int textLength(int node) {
-            return lengths[node];
+            return node >= 0 && node < count ? lengths[node] : 0;
         }
 
         int character(int node, int i) {
-            int k = values[node] + i;
+            int k = node >= 0 && node < count ? values[node] + i : NONE;
             return k >= 0 && k < characterCount ? characters[k] : NONE;
         }
 
         void copyText(int node, Bytes target) {
-            for (int i = 0; i < lengths[node]; i++) {
+            int length = textLength(node);
+            for (int i = 0; i < length; i++) {
                 target.append(character(node, i));
             }
         }
@@ -677,11 +679,12 @@ public final class RecordNode {
         /** The element of a set that has a tag, or NONE. */
         int find(int set, int tag) {
             int node = set + 1;
-            for (int i = 0; i < MOST_ELEMENTS && node < behind[set]; i++) {
-                if (tags[node] == tag) {
+            int end = behind(set);
+            for (int i = 0; i < MOST_ELEMENTS && node < end; i++) {
+                if (tag(node) == tag) {
                     return node;
                 }
-                node = behind[node];
+                node = behind(node);
             }
             return NONE;
         }
@@ -1044,7 +1047,7 @@ public final class RecordNode {
 
         private boolean textFits(Tree pattern, int node, Tree candidate, int other) {
             int wanted = pattern.textLength(node);
-            int length = candidate.textLength(other);
+            int length = Math.min(MOST_CHARACTERS, candidate.textLength(other));
             if (wanted == 0) {
                 return true;
             }
@@ -1094,15 +1097,19 @@ public final class RecordNode {
         }
 
         int id(int context) {
-            return ids[context];
+            return has(context) ? ids[context] : NONE;
         }
 
         int service(int context) {
-            return services[context];
+            return has(context) ? services[context] : NONE;
         }
 
         int result(int context) {
-            return results[context];
+            return has(context) ? results[context] : NONE;
+        }
+
+        private boolean has(int context) {
+            return context >= 0 && context < count;
         }
 
         int find(int id) {
@@ -1116,7 +1123,7 @@ public final class RecordNode {
 
         /** The results 0 and 1 are the syntaxes; the others refuse the context. */
         boolean isUsable(int context) {
-            return context != NONE && results[context] <= IMPLICIT;
+            return has(context) && results[context] <= IMPLICIT;
         }
 
         /** Takes the contexts out of a request; false when they are not as they have to be. */
