@@ -186,6 +186,7 @@ public final class BoundaryStateTest {
         Kit.feed(x, Kit.piece(1, 1, 1, 5, 2, 2));
         Kit.due("of this one", x.context(5), 1);
         Kit.due("of the refused one", x.context(9), RecordNode.NONE);
+        Kit.due("of the one before that", x.context(3), RecordNode.NONE);
     }
 
     private static void none(Node x, int k, int i) {

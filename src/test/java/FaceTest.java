@@ -8,7 +8,7 @@ import java.util.TreeSet;
 
 /** The public face: its members, and no others that anybody outside could see. */
 public final class FaceTest {
-    public static void main(String[] args) {
+    public static void main(String[] args) throws ReflectiveOperationException {
         Set<String> seen = new TreeSet<>();
         for (Method method : RecordNode.class.getDeclaredMethods()) {
             if (!Modifier.isPrivate(method.getModifiers())) {
@@ -34,8 +34,36 @@ public final class FaceTest {
         }
         Kit.due("the face", seen.equals(due), true);
         Kit.due("modifiers", RecordNode.class.getModifiers(), Modifier.PUBLIC | Modifier.FINAL);
+        Kit.due("NONE", valueOfNone(), -1);
+        for (Method method : RecordNode.class.getDeclaredMethods()) {
+            if (Modifier.isPublic(method.getModifiers())) {
+                String told = Arrays.toString(method.getExceptionTypes());
+                Kit.due(method.getName() + " says that it throws " + told, told.equals(thrownBy(method.getName())), true);
+            }
+        }
         privateNamesDiffer(due);
         Kit.end();
+    }
+
+    /** Not by its name: then the compiler would write its value into this class. */
+    private static int valueOfNone() throws ReflectiveOperationException {
+        return RecordNode.class.getDeclaredField("NONE").getInt(null);
+    }
+
+    private static String thrownBy(String method) {
+        switch (method) {
+            case "check":
+            case "feed":
+                return "[class java.lang.IllegalArgumentException]";
+            case "convert":
+                return "[class java.lang.IllegalArgumentException, class java.lang.IllegalStateException]";
+            case "at":
+            case "take":
+            case "record":
+                return "[class java.util.NoSuchElementException]";
+            default:
+                return "[]";
+        }
     }
 
     /** No method of the class or of those inside it may bear the name of a method of the face. */

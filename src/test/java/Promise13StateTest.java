@@ -24,6 +24,9 @@ public final class Promise13StateTest {
         states("broken off", x, 3, 5, 28, 0, 0, 0, 1, 1);
         x.close();
         states("closed", x, 0, 0, 28, 0, 0, 0, 1, 1);
+        x.open();
+        Kit.feed(x, Kit.join(request, Kit.command(1, 1, 1, 0)));
+        states("an answer that keeps nothing", x, 2, 0, 54, 0, 0, 0, 1, 2);
         endingForgetsTheMessage();
         Kit.end();
     }
